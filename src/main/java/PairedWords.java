@@ -692,7 +692,10 @@ public final class PairedWords {
             return count - 1;
         }
 
-        /** Gathers the words that begin as the one at hand, of that size, and whose lower form belongs to an upper one. */
+        /**
+         * Gathers the words that begin with the first size entries of the one at hand and go on in a
+         * part, if their lower form belongs to an upper one.
+         */
         private void goOn(int part, int size, Line upper, Comparison comparison, Results words) {
             if (size >= MOST_ENTRIES_OF_WORD) {
                 return;
