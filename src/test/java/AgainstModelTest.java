@@ -8,7 +8,7 @@ import java.util.TreeMap;
 /** Runs of drawn calls (the same ones each time), each answer held against the model's. All promises. */
 public final class AgainstModelTest {
     private static final int RUNS = 60;
-    private static final int CALLS = 500;
+    private static final int CALLS = 512;
     private static final int FIRST_PAIRS = 12;
     private static final int ROUND = 100;
     private static final int BUILDING = 30;

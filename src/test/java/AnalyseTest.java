@@ -96,6 +96,33 @@ public final class AnalyseTest {
     }
 
     private static void tooMany() {
+        Story.tell("words that do not belong, and rows that are too long for words, do not count", """
+            pair 1 1 -> 0
+            entry 0 0 -> 0
+            entry 0 0 -> 1
+            entry 0 0 -> 2
+            entry 0 0 -> 3
+            entry 0 -1 -> 4
+            entry 0 -1 -> 5
+            analyse -> IllegalStateException    # 2 * (1 + 4 + 16 + 64)
+            results -> none
+            spell 4 1 -> 1
+            spell 5 1 -> 1
+            analyse -> 0
+            spell 4 1 -> 2
+            spell 4 1 -> 3
+            spell 5 1 -> 2
+            spell 5 1 -> 3
+            spell 0 1 -> 1
+            spell 1 1 -> 1
+            spell 2 1 -> 1
+            spell 3 1 -> 1
+            upper 1 1 1 -> 3
+            analyse -> 2
+            upper 1 1 1 1 -> 4
+            analyse -> 8
+            results -> 1111/04 1111/05 1111/14 1111/15 1111/24 1111/25 1111/34 1111/35
+            """);
         Story.tell("more than 60: the results stay", """
             entry 0 0 -> 0
             entry 0 0 -> 1

@@ -80,8 +80,40 @@ public final class ContextTest {
         Story.end();
     }
 
-    /** Pair r:7 may stand only first with 1:1 behind, or last with 2:2 before, for r = 3 to 6. */
+    /**
+     * Pair r:7 may stand only first with 1:1 behind, or last with 2:2 before, for r = 3 to 6; the contexts
+     * are made in several orders, since what is told of one rule must leave the others as they are.
+     */
     private static void everyRuleWithTwo() {
+        String[] first = {"context R true false -> 1", "element R true 1 false -> 1", "element R true 63 true -> 2",
+            "element R false 0 true -> 1", "element R false 0 true -> 2"};
+        String[] second = {"context R false true -> 2", "element R false 63 true -> 1", "element R false 2 false -> 2",
+            "element R true 0 true -> 1", "element R true 0 true -> 2"};
+        StringBuilder upwards = new StringBuilder();
+        StringBuilder downwards = new StringBuilder();
+        StringBuilder inTurns = new StringBuilder();
+        for (int rule = 0; rule < 4; rule++) {
+            String all = of(rule, String.join("\n", first) + "\n" + String.join("\n", second) + "\n");
+            upwards.append(all);
+            downwards.insert(0, all);
+        }
+        for (String[] calls : new String[][] {first, second}) {
+            for (String call : calls) {
+                for (int rule : new int[] {2, 3, 0, 1}) {
+                    inTurns.append(of(rule, call + "\n"));
+                }
+            }
+        }
+        fourRules("rule by rule", upwards.toString());
+        fourRules("the last rule first", downwards.toString());
+        fourRules("in turns", inTurns.toString());
+    }
+
+    private static String of(int rule, String calls) {
+        return calls.replace("S", "" + (rule + 3)).replace("R", "" + rule);
+    }
+
+    private static void fourRules(String title, String contexts) {
         StringBuilder text = new StringBuilder("""
             pair 1 1 -> 0
             pair 2 2 -> 1
@@ -89,20 +121,13 @@ public final class ContextTest {
             pair 4 7 -> 3
             pair 5 7 -> 4
             pair 6 7 -> 5
-            """);
+            rule 0 2 -> 0
+            rule 0 3 -> 1
+            rule 0 4 -> 2
+            rule 0 5 -> 3
+            """).append(contexts);
         for (int rule = 0; rule < 4; rule++) {
-            text.append("""
-                rule 0 P -> R
-                context R true false -> 1
-                element R true 1 false -> 1
-                element R true 63 true -> 2
-                context R false true -> 2
-                element R false 63 true -> 1
-                element R false 2 false -> 2
-                """.replace("P", "" + (rule + 2)).replace("R", "" + rule));
-        }
-        for (int rule = 0; rule < 4; rule++) {
-            text.append("""
+            text.append(of(rule, """
                 lower S 1 -> 2
                 upper 7 1 -> 2
                 blame -> -1
@@ -118,8 +143,8 @@ public final class ContextTest {
                 lower S 2 -> 2
                 upper 7 2 -> 2
                 blame -> R
-                """.replace("S", "" + (rule + 3)).replace("R", "" + rule));
+                """));
         }
-        Story.tell("four rules with two contexts each", text.toString());
+        Story.tell("four rules with two contexts each, " + title, text.toString());
     }
 }

@@ -65,7 +65,65 @@ public final class ElementTest {
             upper 3 2 -> 2
             belong -> false
             """);
+        longest();
         Story.end();
+    }
+
+    /** Nine pairs are the longest row that two lines have: the last has eight before it, the first eight behind. */
+    private static void longest() {
+        String pairs = """
+            pair 1 0 -> 0
+            pair 0 2 -> 1
+            pair 0 3 -> 2
+            rule 0 2 -> 0
+            lower 1 1 1 1 -> 4
+            """;
+        Story.tell("any number of pairs: eight before", pairs + """
+            context 0 true false -> 1
+            element 0 false 3 true -> 1
+            upper 2 2 2 2 3 -> 5
+            belong -> true
+            element 0 false 2 false -> 2        # right before is 1:0
+            belong -> false
+            context 0 true false -> 2
+            element 0 false 3 true -> 1
+            element 0 false 1 false -> 2
+            belong -> true
+            upper 3 2 2 2 3 -> 5
+            belong -> false
+            blame -> 0
+            """);
+        Story.tell("any number of pairs: eight behind", pairs + """
+            context 0 false true -> 1
+            element 0 true 3 true -> 1
+            upper 3 2 2 2 2 -> 5
+            belong -> true
+            element 0 true 2 false -> 2
+            belong -> true
+            context 0 false true -> 2
+            upper 3 2 2 2 3 -> 5
+            belong -> false
+            element 0 true 2 false -> 1
+            upper 3 2 2 2 2 -> 5
+            belong -> true
+            """);
+        Story.tell("any number of pairs: on both sides of each place", pairs + """
+            context 0 true true -> 1
+            element 0 false 3 true -> 1
+            element 0 true 3 true -> 1
+            upper 3 2 2 2 2 -> 5
+            belong -> true
+            upper 2 3 2 2 2 -> 5
+            belong -> true
+            upper 2 2 3 2 2 -> 5
+            belong -> true
+            upper 2 2 2 3 2 -> 5
+            belong -> true
+            upper 2 2 2 2 3 -> 5
+            belong -> true
+            upper 2 3 2 3 2 -> 5
+            belong -> false
+            """);
     }
 
     private static void refusals() {

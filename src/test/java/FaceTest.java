@@ -3,6 +3,7 @@ import java.lang.reflect.Executable;
 import java.lang.reflect.Field;
 import java.lang.reflect.Method;
 import java.lang.reflect.Modifier;
+import java.util.ArrayList;
 import java.util.Arrays;
 import java.util.List;
 import java.util.Set;
@@ -54,7 +55,31 @@ public final class FaceTest {
             Story.claim(inside + " is static, and not public", Modifier.isStatic(inside.getModifiers())
                 && !Modifier.isPublic(inside.getModifiers()) && !Modifier.isProtected(inside.getModifiers()));
         }
+        language(c);
         Story.end();
+    }
+
+    /** What of LANGUAGE.md can be seen from outside: rules 1, 5 and 11. */
+    private static void language(Class<?> c) {
+        Set<String> publicNames = Arrays.stream(c.getMethods()).filter(m -> m.getDeclaringClass() == c)
+            .map(Method::getName).collect(Collectors.toSet());
+        Story.claim("at most twelve classes", c.getDeclaredClasses().length + 1 <= 12);
+        List<Class<?>> all = new ArrayList<>(List.of(c.getDeclaredClasses()));
+        all.add(c);
+        for (Class<?> one : all) {
+            int ofObjects = 0;
+            for (Field field : one.getDeclaredFields()) {
+                boolean isStatic = Modifier.isStatic(field.getModifiers());
+                ofObjects += isStatic ? 0 : 1;
+                Story.claim(field + " is final if static", !isStatic || Modifier.isFinal(field.getModifiers()));
+            }
+            Story.claim(one + " has at most twenty fields", ofObjects <= 20);
+            for (Method method : one.getDeclaredMethods()) {
+                Story.claim(method + " takes at most seven parameters", method.getParameterCount() <= 7);
+                Story.claim(method + " has a name of its own", !Modifier.isPrivate(method.getModifiers())
+                    || !publicNames.contains(method.getName()));
+            }
+        }
     }
 
     private static void addIfSeen(Executable e, String answer, Set<String> seen) {

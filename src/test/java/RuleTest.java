@@ -100,7 +100,53 @@ public final class RuleTest {
             upper 2 3 3 -> 3
             belong -> false
             """);
+        eachPlace();
+        Story.tell("ALWAYS asks nothing of pairs with another lower sign, though a context holds", PAIRS + """
+            rule 1 2 -> 0
+            context 0 false false -> 1
+            lower 2 -> 1
+            write -> 1
+            results -> 2
+            lower 2 1 2 -> 3
+            write -> 1
+            results -> 232
+            """);
         Story.end();
+    }
+
+    /** The rule's pair or its rival at the first place, in between, at the last one, and alone. */
+    private static void eachPlace() {
+        // Without contexts, or with one that always holds; and which of 1:1 and 1:2 may not stand then.
+        String[] cases = {"0 without 2", "1 with 1", "2 without 2", "2 with 1", "3 with 2"};
+        for (String told : cases) {
+            String kind = told.split(" ")[0];
+            String context = told.split(" ")[1].equals("with") ? "context 0 false false -> 1\n" : "";
+            String bad = told.split(" ")[2];
+            Story.tell("at each place: kind " + told, """
+                pair 1 1 -> 0
+                pair 1 2 -> 1
+                pair 3 3 -> 2
+                rule K 1 -> 0
+                CONTEXTlower 1 3 3 -> 3
+                upper B 3 3 -> 3
+                blame -> 0
+                lower 3 1 3 -> 3
+                upper 3 B 3 -> 3
+                blame -> 0
+                lower 3 3 1 -> 3
+                upper 3 3 B -> 3
+                blame -> 0
+                lower 1 -> 1
+                upper B -> 1
+                blame -> 0
+                upper G -> 1
+                blame -> -1
+                lower 3 3 3 3 -> 4
+                upper 3 3 3 3 -> 4
+                blame -> -1
+                """.replace("K", kind).replace("CONTEXT", context).replace("B", bad)
+                .replace("G", bad.equals("1") ? "2" : "1"));
+        }
     }
 
     private static void withoutContexts() {

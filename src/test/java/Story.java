@@ -35,6 +35,24 @@ final class Story {
         }
     }
 
+    /** One call on an object at hand, for tests that go through many. */
+    static void due(String title, PairedWords x, String call, String answer) {
+        String got = answer(x, call.split(" "));
+        if (!got.equals(answer)) {
+            wrong++;
+            System.out.println(title + ": " + call + " -> " + answer + ", but the answer is " + got);
+        }
+    }
+
+    /** An object on which each of these calls has been made, whatever it answered. */
+    static PairedWords after(String... calls) {
+        PairedWords x = new PairedWords();
+        for (String call : calls) {
+            answer(x, call.split(" "));
+        }
+        return x;
+    }
+
     /** To be called at the end of a test. */
     static void end() {
         if (wrong > 0) {
@@ -49,7 +67,7 @@ final class Story {
         }
     }
 
-    private static String answer(PairedWords x, String[] call) {
+    static String answer(PairedWords x, String[] call) {
         return switch (call[0]) {
             case "lower" -> typed(x, false, call);
             case "upper" -> typed(x, true, call);

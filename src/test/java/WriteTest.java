@@ -58,10 +58,81 @@ public final class WriteTest {
             write -> 5
             results -> 111 112 121 211 212
             """);
+        Story.tell("five signs, not six", """
+            pair 1 1 -> 0
+            pair 0 2 -> 1
+            pair 0 3 -> 2
+            lower 1 1 1 1 -> 4
+            write -> 11
+            results -> 1111 11112 11113 11121 11131 11211 11311 12111 13111 21111 31111
+            lower -> 0
+            write -> 3
+            results -> - 2 3
+            """);
+        Story.tell("the empty form alone", """
+            pair 1 0 -> 0
+            lower 1 1 1 1 -> 4
+            write -> 1
+            results -> -
+            length 0 false -> 0
+            result 0 0 false -> IndexOutOfBoundsException
+            """);
         Story.end();
     }
 
     private static void tooMany() {
+        Story.tell("just 60 by 108 alignments", """
+            pair 0 3 -> 0
+            pair 0 1 -> 1
+            pair 1 1 -> 2
+            pair 1 3 -> 3
+            lower 1 1 -> 2
+            write -> 60
+            length 59 false -> 5
+            length 60 false -> IndexOutOfBoundsException
+            """);
+        Story.tell("just 60, since longer ones than five signs do not count", """
+            pair 2 1 -> 0
+            pair 0 1 -> 1
+            pair 2 3 -> 2
+            pair 1 0 -> 3
+            pair 0 3 -> 4
+            lower 2 1 2 -> 3
+            write -> 60
+            length 59 false -> 5
+            lower 2 1 2 1 -> 4
+            write -> 60                         # the same ones, by 524 alignments
+            lower 1 1 1 1 -> 4
+            write -> IllegalStateException      # 1 + 2 + 4 + 8 + 16 + 32
+            length 59 false -> 5
+            length 60 false -> IndexOutOfBoundsException
+            """);
+        Story.tell("61 by 66 alignments", """
+            pair 0 2 -> 0
+            pair 0 3 -> 1
+            pair 2 2 -> 2
+            pair 2 1 -> 3
+            pair 1 1 -> 4
+            lower 1 -> 1
+            write -> 9
+            lower 1 2 1 -> 3
+            write -> IllegalStateException
+            results -> 1 12 13 21 31 212 213 312 313
+            rule 3 3 -> 0
+            context 0 false false -> 1
+            write -> 28
+            """);
+        Story.tell("81, but a rule stands against all but 60 or less", """
+            pair 1 1 -> 0
+            pair 1 2 -> 1
+            pair 1 3 -> 2
+            lower 1 1 1 1 -> 4
+            write -> IllegalStateException
+            results -> none
+            rule 3 2 -> 0
+            context 0 true false -> 1
+            write -> 54
+            """);
         Story.tell("more than 60: the results stay", """
             pair 1 1 -> 0
             pair 1 2 -> 1
