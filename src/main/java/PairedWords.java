@@ -655,7 +655,7 @@ public final class PairedWords {
                     upper.add(upperAt(place));
                 }
             }
-            forms.add(upper, NO_ENTRIES, 0);
+            forms.add(Results.keyOf(upper, NO_ENTRIES, 0));
         }
 
         boolean isDone() {
@@ -714,7 +714,7 @@ public final class PairedWords {
             if (nexts[entry] != END) {
                 goOn(nexts[entry], size + 1, upper, comparison, words);
             } else if (comparison.finds(wordSigns, upper)) {
-                words.add(wordSigns, word, size + 1);
+                words.add(Results.keyOf(wordSigns, word, size + 1));
             }
             wordSigns.cutTo(had);
         }
@@ -753,8 +753,7 @@ public final class PairedWords {
         }
 
         /** One more, at its place in the order, if it is not there yet. */
-        void add(Line signs, int[] entries, int entryCount) {
-            long key = keyOf(signs, entries, entryCount);
+        void add(long key) {
             int at = count;
             while (at > 0 && keys[at - 1] > key) {
                 at--;
@@ -773,7 +772,7 @@ public final class PairedWords {
             count++;
         }
 
-        private static long keyOf(Line signs, int[] entries, int entryCount) {
+        static long keyOf(Line signs, int[] entries, int entryCount) {
             long key = signs.size();
             for (int i = 0; i < MOST_UPPER_SIGNS; i++) {
                 key = key << BITS | signs.signAt(i);
